@@ -806,6 +806,8 @@ public final class TwoLevels {
         int freeBits;
         /** How many of the FREE ones stand in the first MEMBER. */
         int early;
+        /** How many TOKENS stand ahead of the first NOTION. */
+        private int ahead;
 
         /** The METANOTIONS of the HEAD are bound. */
         Choice(int bound) {
@@ -833,12 +835,18 @@ public final class TwoLevels {
                 tokens |= token ? 1 << size : 0;
                 bits |= Upper.bitsOf(signs);
                 early = size == 0 ? freed : early;
+                ahead += token && ahead == size ? 1 : 0;
                 size++;
             }
         }
 
         boolean isToken(int member) {
             return (tokens >> member & 1) == 1;
+        }
+
+        /** Whether so many WORDS can do for the TOKENS ahead; if not so, no STEP comes of it. */
+        boolean suits(int many) {
+            return ahead == size ? many == size : many >= ahead;
         }
 
         int freeAt(int slot) {
@@ -1471,7 +1479,7 @@ public final class TwoLevels {
             for (int c = 0; c < rule.size && !over; c++) {
                 node.alternative = c;
                 node.choice = rule.choices[c];
-                if (triesFrees(node, node.choice, 0)) {
+                if (node.choice.suits(node.many) && triesFrees(node, node.choice, 0)) {
                     return true;
                 }
             }
@@ -1503,7 +1511,7 @@ public final class TwoLevels {
         /** Whether the first MEMBER can stand: else no STEP comes of the alternative. */
         private boolean opens(Node node, Choice choice) {
             long row = fits[node.level].spell(choice.members[0]);
-            return choice.isToken(0) ? node.many > 0 && words[node.from] == row : row != Rows.TOO_LONG;
+            return choice.isToken(0) ? words[node.from] == row : row != Rows.TOO_LONG;
         }
 
         /** Whether the MEMBERS from one on make up all the WORDS that are left. */

@@ -392,6 +392,7 @@ final class Model {
         if (spanMetas != all.metas) {
             spanMetas = all.metas;
             spanCache.clear();
+            assignmentCache.clear();
         }
         Set<String> got = spanCache.get(notion);
         if (got != null) return got;
@@ -477,10 +478,7 @@ final class Model {
     private final Map<String, List<Map<Character, String>>> assignmentCache = new HashMap<>();
 
     List<Map<Character, String>> assignments(Rule rule, String notion) {
-        if (spanMetas != all.metas) {
-            spans(notion);
-            assignmentCache.clear();
-        }
+        spans(notion);
         return assignmentCache.computeIfAbsent(rule.head + ":" + notion, key -> {
             List<Map<Character, String>> list = new ArrayList<>();
             lengths(rule.head, capitals(rule.head), notion, new int[6], 0, 0, list);

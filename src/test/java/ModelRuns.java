@@ -80,6 +80,9 @@ public final class ModelRuns {
             int asks = 3 + below(6);
             for (int ask = 0; ask < asks && !wrong; ask++) {
                 question();
+                if (chance(30)) sweepDerivation();
+                if (chance(10)) sweepHeads();
+                if (chance(5)) sweepWords();
                 for (int i = 0; i < 14 && !wrong; i++) look();
                 for (int i = below(3); i > 0 && !wrong; i--) change();
                 for (int i = 0; i < 8 && !wrong; i++) look();
@@ -117,6 +120,43 @@ public final class ModelRuns {
             String text = Texts.words(random, model);
             put(chance(3) ? strange(text) : text);
             same(4);
+        }
+    }
+
+    private void sweepDerivation() {
+        int nodes = Math.min(12, same(26, -1, 0));
+        for (int k = 0; k < nodes; k++) {
+            for (int what = 0; what < 8; what++) same(26, k, what);
+            for (int i = 0; i <= x.node(k, 6); i++) same(27, k, i);
+            for (char name : Texts.NAMES.toCharArray()) {
+                for (int i = -1; i < 3; i++) same(28, k, name, i);
+            }
+        }
+        for (int what = 0; what < 4; what++) same(24, what);
+        same(29);
+    }
+
+    private void sweepHeads() {
+        for (int r = 0; r < model.all.rules.size(); r++) {
+            int many = same(19, r);
+            for (int k = 0; k <= Math.min(many, 12); k++) {
+                for (char name : Texts.NAMES.toCharArray()) {
+                    int size = same(20, r, k, name, -1);
+                    if (size > 0) same(20, r, k, name, below(size + 1));
+                }
+            }
+        }
+    }
+
+    private void sweepWords() {
+        for (char name : Texts.NAMES.toCharArray()) {
+            for (int what = 0; what < 5; what++) same(12, name, what);
+            for (int k = 0; k <= 20; k++) {
+                for (int i = -1; i < 3; i++) same(13, name, k, i);
+            }
+            for (int from = 0; from <= model.all.notion.length(); from++) {
+                for (int many = 0; from + many <= model.all.notion.length(); many++) same(15, name, from, many);
+            }
         }
     }
 

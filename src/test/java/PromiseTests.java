@@ -205,6 +205,12 @@ public final class PromiseTests {
         due(x.undo(), NONE, "undo");
         due(x.tell(), 0, "the empty TAPE");
         due(x.count(1), 0, "RULES");
+        TwoLevels y = asked("A=;A:", "", "");
+        due(y.derives() + y.holds() + y.least(), 3, "searches of one GRAMMAR");
+        Calls.tell(y, "a:");
+        due(y.derives(), 0, "derives by another one");
+        due(y.holds(), 0, "holds by another one");
+        due(y.least(), -2, "least by another one");
     }
 
     private static void faultsOfKindOne() {
@@ -295,6 +301,13 @@ public final class PromiseTests {
         fault("A=B;;", 4, 1);
         fault("a:Z;A=a;A=a", 8, 4);
         fine("a:B;B=C;C=B", 1, 2);
+        fault("a:Z", 2, 5);
+        fault("A:", 0, 5);
+        fault("ABCDEF:;GHIJKL:;M=a|b|c|d;N=M", 0, 5);
+        fault("GHIJKL:;A=a;B=A;C=;D=;E=;F=|A", 0, 5);
+        fault("ABCDEF:;GHIJKL:;MNOPQR:;STUVWX:;YZ:", 0, 5);
+        fine("Z=a;a:Z", 1, 1);
+        due(told("Z=a|b;a:Z").meta('Z', 0), 2, "alternatives of Z");
     }
 
     private static void notions() {
@@ -486,6 +499,15 @@ public final class PromiseTests {
         due(x.letter(2, 0), 'e', "of THE TEXT");
         due(x.count(4), 2, "THE NOTION");
         due(x.letter(NONE, 1), 'b', "its letter");
+        TwoLevels y = asked("a:/\"x;b:a;c:b", "c", "x");
+        y.keep(0);
+        due(y.derives() + y.holds() + y.least(), 5, "searches");
+        Calls.notion(y, "z");
+        due(y.derives() + y.holds() + y.least(), -2, "searches for another notion");
+        y.back(0);
+        due(y.derives(), 1, "derives as KEPT");
+        due(y.holds(), 1, "holds as KEPT");
+        due(y.least(), 3, "least as KEPT");
     }
 
     // ---- promises 13 to 20 ----
@@ -805,6 +827,20 @@ public final class PromiseTests {
         TwoLevels p = asked("p:p,p/\"x;q:p,q/p", "q", "y y y");
         p.settle(0, 12);
         due(p.derives(), -3, "too many STEPS");
+        TwoLevels t = asked("F=f|g;s:\"x,tF,\"y/\"F,\"F/tF,\"F;tf:;tg:\"y", "s", "x y");
+        due(t.derives(), 1, "TOKENS ahead and behind");
+        due(t.steps(0), 2, "STEPS: s, tf for none");
+        Calls.text(t, "x y y");
+        due(t.derives(), 1, "a WORD between");
+        due(t.free(0, 'F', 0), 'g', "by the second word");
+        Calls.text(t, "g g");
+        due(t.node(0, 1), 1, "TOKENS alone");
+        Calls.text(t, "g");
+        due(t.derives(), 0, "tg needs y");
+        Calls.text(t, "f");
+        due(t.node(0, 1), 2, "a NOTION ahead of a TOKEN");
+        Calls.text(t, "x");
+        due(t.derives(), 0, "x alone");
     }
 
     /** What is tried first shows in NODES. */
