@@ -270,7 +270,7 @@ public final class TwoLevels {
             case 2:
                 return state.upper.hasMany(slot, 0);
             case 3:
-                return state.upper.barren() >> slot & 1 ^ 1;
+                return (state.upper.barren() >> slot & 1) == 0 ? 1 : 0;
             case 4:
                 return state.rulesWith(slot);
             default:
@@ -680,7 +680,7 @@ public final class TwoLevels {
         static int bitsOf(int[] signs) {
             int bits = 0;
             for (int sign : signs) {
-                bits |= bitOf(sign);
+                bits |= sign < CAPITAL ? 0 : 1 << (sign - CAPITAL);
             }
             return bits;
         }
