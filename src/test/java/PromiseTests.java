@@ -1,14 +1,5 @@
 /** Each promise of the document by itself: ordinary inputs, the edges that it names, wrong inputs. */
-public final class PromiseTests {
-    private static final int NONE = TwoLevels.NONE;
-    private static final int LOW = Integer.MIN_VALUE;
-    private static final int HIGH = Integer.MAX_VALUE;
-    private static final String COPIES = "N=i|iN;s:aN,bN;aiN:\"a,aN;ai:\"a;biN:\"b,bN;bi:\"b";
-
-    private static int promise;
-    private static int checks;
-    private static int wrong;
-
+public final class PromiseTests extends Checks {
     private PromiseTests() {
     }
 
@@ -49,70 +40,13 @@ public final class PromiseTests {
         freeWords();
         checking();
         counting();
-        System.out.println(wrong == 0 ? checks + " checks passed" : wrong + " of " + checks + " checks failed");
-        if (wrong != 0) {
-            System.exit(1);
-        }
-    }
-
-    private static void due(int got, int want, String what) {
-        checks++;
-        if (got != want) {
-            wrong++;
-            System.out.println("promise " + promise + ": " + what + " answered " + got + ", due is " + want);
-        }
-    }
-
-    private static TwoLevels told(String grammar) {
-        TwoLevels x = new TwoLevels();
-        if (Calls.tell(x, grammar) < 0) {
-            due(-1, 0, "the test's own grammar " + grammar);
-        }
-        return x;
-    }
-
-    private static TwoLevels asked(String grammar, String notion, String text) {
-        TwoLevels x = told(grammar);
-        ask(x, notion, text);
-        return x;
-    }
-
-    private static void ask(TwoLevels x, String notion, String text) {
-        due(Calls.notion(x, notion), notion.length(), "notion " + notion);
-        due(Calls.text(x, text) < 0 ? 1 : 0, 0, "text " + text);
-    }
-
-    private static void fault(String grammar, int place, int kind) {
-        TwoLevels x = new TwoLevels();
-        due(Calls.tell(x, grammar), -2 - (8 * place + kind), "tell of " + grammar);
-        due(x.count(8), 0, "the TAPE behind " + grammar);
-        due(x.count(0) + x.count(1), 0, "the GRAMMAR behind " + grammar);
-    }
-
-    private static void fine(String grammar, int rules, int metas) {
-        TwoLevels x = new TwoLevels();
-        due(Calls.tell(x, grammar), rules, "tell of " + grammar);
-        due(x.count(0), metas, "METANOTIONS of " + grammar);
-    }
-
-    private static String wordOf(TwoLevels x, int name, int k) {
-        StringBuilder s = new StringBuilder();
-        for (int i = 0; i < x.word(name, k, NONE); i++) s.append((char) x.word(name, k, i));
-        return s.toString();
-    }
-
-    private static void dueWords(TwoLevels x, int name, String... list) {
-        due(x.meta(name, 1), list.length, "how many words " + (char) name + " HAS");
-        for (int k = 0; k < list.length; k++) {
-            due(wordOf(x, name, k).equals(list[k]) ? 1 : 0, 1, "word " + k + " of " + (char) name + ", " + wordOf(x, name, k) + ", being " + list[k]);
-        }
-        due(x.word(name, list.length, NONE), -2, "a word behind the last");
+        finish();
     }
 
     // ---- promises 1 to 6 ----
 
     private static void newObject() {
-        promise = 1;
+        about("promise 1");
         TwoLevels x = new TwoLevels();
         int[] counts = {0, 0, 0, 0, 0, 6, 2, 0, 0, 0, 0};
         for (int what = 0; what < counts.length; what++) due(x.count(what), counts[what], "count(" + what + ")");
@@ -125,7 +59,7 @@ public final class PromiseTests {
     }
 
     private static void feeding() {
-        promise = 2;
+        about("promise 2");
         TwoLevels x = new TwoLevels();
         for (int k = 1; k <= 25; k++) due(x.feed(0, 0, 0, 0, 0), 20 * k, "feed " + k);
         due(x.feed(0, 0, 0, 0, 0), NONE, "feed 26");
@@ -151,7 +85,7 @@ public final class PromiseTests {
     }
 
     private static void ending() {
-        promise = 3;
+        about("promise 3");
         TwoLevels x = new TwoLevels();
         due(x.end(0), 0, "end(0) of an empty TAPE");
         due(x.end(1), NONE, "end(1) of an empty TAPE");
@@ -169,7 +103,7 @@ public final class PromiseTests {
     }
 
     private static void tellingGrammars() {
-        promise = 4;
+        about("promise 4");
         fine("", 0, 0);
         fine("   ", 0, 0);
         fine("A=", 0, 1);
@@ -214,7 +148,7 @@ public final class PromiseTests {
     }
 
     private static void faultsOfKindOne() {
-        promise = 4;
+        about("promise 4");
         fault(";", 0, 1);
         fault("  ;", 2, 1);
         fault("=a", 0, 1);
@@ -256,7 +190,7 @@ public final class PromiseTests {
     }
 
     private static void faultsOfCounts() {
-        promise = 4;
+        about("promise 4");
         fault("abcdefg:", 6, 2);
         fault("ABCDEFG=", 6, 2);
         fault("A=abcdefg", 8, 2);
@@ -288,7 +222,7 @@ public final class PromiseTests {
     }
 
     private static void faultsOfNames() {
-        promise = 4;
+        about("promise 4");
         fault("A=a;A=b", 4, 4);
         fault("A=a; A =b", 5, 4);
         fault("A=a;A", 5, 1);
@@ -311,7 +245,7 @@ public final class PromiseTests {
     }
 
     private static void notions() {
-        promise = 5;
+        about("promise 5");
         TwoLevels x = told(COPIES);
         due(Calls.notion(x, "abcdefghij"), 10, "ten letters");
         due(x.letter(NONE, 9), 'j', "the tenth");
@@ -331,7 +265,7 @@ public final class PromiseTests {
     }
 
     private static void texts() {
-        promise = 6;
+        about("promise 6");
         TwoLevels x = told(COPIES);
         due(Calls.text(x, "a b c d e f g h"), 8, "eight WORDS");
         due(Calls.text(x, "a b c d e f g h ij"), -2 - (8 * 16 + 3), "nine WORDS");
@@ -356,7 +290,7 @@ public final class PromiseTests {
     // ---- promises 7 to 12 ----
 
     private static void settings() {
-        promise = 7;
+        about("promise 7");
         TwoLevels x = new TwoLevels();
         due(x.settle(0, 12), 6, "DEPTH 12");
         due(x.settle(0, 12), -2, "DEPTH 12 again");
@@ -377,7 +311,7 @@ public final class PromiseTests {
     }
 
     private static void dropping() {
-        promise = 8;
+        about("promise 8");
         TwoLevels x = told("a:;b:x;c:x,y");
         due(x.drop(3), NONE, "drop(3)");
         due(x.drop(-1), NONE, "drop(-1)");
@@ -399,7 +333,7 @@ public final class PromiseTests {
     }
 
     private static void swapping() {
-        promise = 9;
+        about("promise 9");
         TwoLevels x = told("a:;b:x;c:x,y");
         due(x.swap(0, 2), 1, "swap(0, 2)");
         due(x.head(0, 0), 'c', "RULE 0");
@@ -417,7 +351,7 @@ public final class PromiseTests {
     }
 
     private static void undoing() {
-        promise = 10;
+        about("promise 10");
         TwoLevels x = told("a:;b:x;c:x,y");
         due(x.undo(), NONE, "undo of nothing");
         x.settle(0, 3);
@@ -453,7 +387,7 @@ public final class PromiseTests {
     }
 
     private static void keeping() {
-        promise = 11;
+        about("promise 11");
         TwoLevels x = told("a:;b:x;c:x,y");
         due(x.keep(-1), NONE, "keep(-1)");
         due(x.keep(2), NONE, "keep(2)");
@@ -471,7 +405,7 @@ public final class PromiseTests {
     }
 
     private static void goingBack() {
-        promise = 12;
+        about("promise 12");
         TwoLevels x = asked("A=a;a:;b:x;c:x,A", "ab", "c d e");
         due(x.back(0), -2, "back(0) of nothing");
         due(x.back(-1), NONE, "back(-1)");
@@ -513,7 +447,7 @@ public final class PromiseTests {
     // ---- promises 13 to 20 ----
 
     private static void letters() {
-        promise = 13;
+        about("promise 13");
         TwoLevels x = asked("", "xyz", "ab c");
         due(x.letter(NONE, 0), 'x', "letter(NONE, 0)");
         due(x.letter(NONE, 2), 'z', "letter(NONE, 2)");
@@ -530,7 +464,7 @@ public final class PromiseTests {
     }
 
     private static void metas() {
-        promise = 14;
+        about("promise 14");
         TwoLevels x = told("A=a|bA|c;B=|A;C=aC|CA;D=abcd;a:A;b:\"xB;A:;c:c");
         due(x.meta('A', 0), 3, "alternatives of A");
         due(x.meta('B', 0), 2, "alternatives of B");
@@ -568,7 +502,7 @@ public final class PromiseTests {
     }
 
     private static void words() {
-        promise = 15;
+        about("promise 15");
         TwoLevels x = told("A=b|a|ab|AA;B=|A;C=;D=xyzw|zz|z;E=EE");
         dueWords(x, 'A', "a", "b", "aa", "ab", "ba", "bb");
         dueWords(x, 'B', "", "a", "b", "aa", "ab", "ba", "bb");
@@ -601,7 +535,7 @@ public final class PromiseTests {
     }
 
     private static void membership() {
-        promise = 16;
+        about("promise 16");
         TwoLevels x = asked("A=a|aAb;B=|bB;C=BAB;D=DD|a|;E=aE", "aaaaabbbb", "");
         due(x.is('A'), 1, "aaaaabbbb of A");
         due(x.is('B'), 0, "of B");
@@ -626,7 +560,7 @@ public final class PromiseTests {
     }
 
     private static void spans() {
-        promise = 17;
+        about("promise 17");
         TwoLevels x = asked("A=a|aAb;B=|bB", "baab", "");
         due(x.span('A', 1, 3), 1, "aab of A");
         due(x.span('A', 1, 2), 0, "aa of A");
@@ -648,7 +582,7 @@ public final class PromiseTests {
     }
 
     private static void rules() {
-        promise = 18;
+        about("promise 18");
         TwoLevels x = told("A=a;C=c;CaAbC:/x/y;a:;A:A");
         due(x.rule(0, 0), 5, "signs");
         due(x.rule(0, 1), 3, "alternatives");
@@ -666,7 +600,7 @@ public final class PromiseTests {
     }
 
     private static void headSigns() {
-        promise = 19;
+        about("promise 19");
         TwoLevels x = told("a:;CzAb C:;A=a;C=c");
         String head = "CzAbC";
         for (int i = 0; i < 5; i++) due(x.head(1, i), head.charAt(i), "sign " + i);
@@ -678,7 +612,7 @@ public final class PromiseTests {
     }
 
     private static void choices() {
-        promise = 20;
+        about("promise 20");
         TwoLevels x = told("A=a;B=b;D=d;xA:/A,\"B,aDB,\"a/\"A,\"b,\"c,\"d");
         due(x.choice(0, 0, 0), 0, "MEMBERS of nothing");
         due(x.choice(0, 0, 1), 0, "FREE ones of nothing");
@@ -699,7 +633,7 @@ public final class PromiseTests {
     // ---- promises 21 to 27 ----
 
     private static void headCounts() {
-        promise = 21;
+        about("promise 21");
         TwoLevels x = asked("A=|aA;B=|Ba;AB:;ABA:;A:;aA:;b:;aaa:", "aaa", "");
         due(x.heads(0), 4, "AB");
         due(x.heads(1), 2, "ABA: A alike at both places");
@@ -723,7 +657,7 @@ public final class PromiseTests {
     }
 
     private static void assignments() {
-        promise = 22;
+        about("promise 22");
         TwoLevels x = asked("A=|aA;B=|Ba;AB:;BA:;xA:;aAaB:", "aaa", "");
         for (int k = 0; k < 4; k++) {
             due(x.assigned(0, k, 'A', NONE), k, "A of AB");
@@ -754,7 +688,7 @@ public final class PromiseTests {
     }
 
     private static void blindness() {
-        promise = 23;
+        about("promise 23");
         TwoLevels x = asked("A=a|b;aA:;A:;ab:;Aa:", "ab", "");
         due(x.blind(), 5, "ab");
         Calls.notion(x, "a");
@@ -771,7 +705,7 @@ public final class PromiseTests {
     }
 
     private static void holding() {
-        promise = 24;
+        about("promise 24");
         TwoLevels x = asked("s:t,u;t:;u:v/\"x;v:t;w:w;p:p,p/q,p;q:", "s", "x");
         due(x.holds(), 1, "s, whatever THE TEXT is");
         x.settle(0, 3);
@@ -792,7 +726,7 @@ public final class PromiseTests {
     }
 
     private static void deriving() {
-        promise = 25;
+        about("promise 25");
         TwoLevels x = asked(COPIES, "s", "a a b b");
         due(x.derives(), 1, "a a b b");
         Calls.text(x, "a a b");
@@ -845,7 +779,7 @@ public final class PromiseTests {
 
     /** What is tried first shows in NODES. */
     private static void orderOfTrying() {
-        promise = 25;
+        about("promise 25");
         TwoLevels x = asked("A=a|b|ab;B=c|bc|abc;s:A,B/\"x;AB:\"y;A:\"z;B:\"z;C:\"q;C=abc", "s", "z z");
         due(x.node(0, 1), 0, "the first alternative");
         due(x.free(0, 'A', 0), 'a', "the first word of A");
@@ -870,7 +804,7 @@ public final class PromiseTests {
     }
 
     private static void stepCounts() {
-        promise = 26;
+        about("promise 26");
         TwoLevels x = asked(COPIES, "s", "a a b b");
         due(x.steps(0), 14, "STEPS");
         due(x.steps(1), 0, "BLIND ones");
@@ -921,7 +855,7 @@ public final class PromiseTests {
     }
 
     private static void leastDepth() {
-        promise = 27;
+        about("promise 27");
         TwoLevels x = asked(COPIES, "s", "a a b b");
         due(x.least(), 3, "a a b b");
         x.settle(0, 1);
@@ -946,7 +880,7 @@ public final class PromiseTests {
     // ---- promises 28 to 32 ----
 
     private static void nodes() {
-        promise = 28;
+        about("promise 28");
         TwoLevels x = asked(COPIES, "s", "a a b b");
         int[][] want = {
             // RULE, alternative, ASSIGNMENT, first WORD, how many, above, letters, how deep
@@ -989,7 +923,7 @@ public final class PromiseTests {
     }
 
     private static void spelledLetters() {
-        promise = 29;
+        about("promise 29");
         TwoLevels x = asked(COPIES, "s", "a a b b");
         String[] notions = {"s", "aii", "ai", "bii", "bi"};
         for (int k = 0; k < notions.length; k++) {
@@ -1004,7 +938,7 @@ public final class PromiseTests {
     }
 
     private static void freeWords() {
-        promise = 30;
+        about("promise 30");
         TwoLevels x = asked("A=a|bc;B=|x;C=c;s:\"A,tB/\"Bd;tB:\"BC", "s", "bc xc");
         due(x.free(0, 'A', NONE), 2, "A");
         due(x.free(0, 'A', 0), 'b', "its first letter");
@@ -1029,7 +963,7 @@ public final class PromiseTests {
     }
 
     private static void checking() {
-        promise = 31;
+        about("promise 31");
         TwoLevels x = asked(COPIES, "s", "a a b b");
         due(x.checked(), NONE, "all are as told");
         x.swap(1, 2);
@@ -1047,7 +981,7 @@ public final class PromiseTests {
     }
 
     private static void counting() {
-        promise = 32;
+        about("promise 32");
         TwoLevels x = asked("A=a;C=C;Z=ZZ|A;F=ZC;b:/;c:x,y/z;A:", "abc", "d e");
         x.settle(0, 7);
         x.settle(1, 0);
