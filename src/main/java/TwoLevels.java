@@ -1270,7 +1270,7 @@ public final class TwoLevels {
 
         boolean reach(Rule of, int number) {
             begin(of);
-            boolean found = true;
+            boolean found = number >= 0;
             for (int k = 0; found && k <= number && k < MILLION; k++) {
                 found = next();
             }
@@ -1563,10 +1563,13 @@ public final class TwoLevels {
 
         /** Whether RULE, ASSIGNMENT and FREE words are there; the first level's Fit then has them. */
         private boolean isAssigned(Node node) {
-            if (!state.hasRule(node.rule) || node.alternative >= state.rules[node.rule].size) {
+            if (!state.hasRule(node.rule)) {
                 return false;
             }
             Rule rule = state.rules[node.rule];
+            if (node.alternative < 0 || node.alternative >= rule.size) {
+                return false;
+            }
             Choice choice = rule.choices[node.alternative];
             Fit fit = fits[0];
             fit.load(state.upper, node.row);

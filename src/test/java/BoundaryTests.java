@@ -210,6 +210,8 @@ public final class BoundaryTests extends Checks {
     static void promise04AnotherGrammarEmptiesNotionTextAndActs() {
         TwoLevels x = busy();
         due(x.count(7), 2, "ACTS");
+        due(x.derives(), 1, "derives");
+        due(x.least(), 3, "least");
         x.end(0);
         due(Calls.tell(x, "a:;b:"), 2, "tell");
         due(x.count(0), 0, "METANOTIONS");
@@ -220,7 +222,8 @@ public final class BoundaryTests extends Checks {
         due(x.letter(NONE, 0), -2, "of THE NOTION");
         due(x.count(7), 0, "ACTS");
         due(x.undo(), NONE, "undo");
-        due(x.derives(), 0, "derives");
+        due(x.derives(), 0, "derives by another GRAMMAR");
+        due(x.least(), -2, "least by another GRAMMAR");
     }
 
     static void promise04ShelvesAndSettingsStay() {
@@ -243,6 +246,7 @@ public final class BoundaryTests extends Checks {
             refused(x, Calls.tell(new TwoLevels(), text), () -> Calls.tell(x, text), "tell of " + text);
             due(x.undo(), 1, "undo");
             due(x.derives(), 1, "derives");
+            due(Calls.tell(x, "a:;b:"), 2, "a GRAMMAR behind it");
         }
     }
 
@@ -670,6 +674,18 @@ public final class BoundaryTests extends Checks {
         due(x.count(5), 7, "DEPTH");
     }
 
+    static void promise12SearchesAreOfWhatIsBack() {
+        TwoLevels x = asked("a:/\"x;b:a", "b", "x");
+        x.keep(0);
+        ask(x, "z", "");
+        due(x.derives() + x.holds(), 0, "of another notion");
+        due(x.least(), -2, "least of another notion");
+        x.back(0);
+        due(x.derives(), 1, "derives");
+        due(x.holds(), 1, "holds");
+        due(x.least(), 2, "least");
+    }
+
     static void promise12TheSameShelfTwice() {
         TwoLevels x = busy();
         due(x.back(1), 5, "back(1)");
@@ -1062,6 +1078,15 @@ public final class BoundaryTests extends Checks {
         due(asked("a:;a:;a:;a:;a:;a:;a:;a:;a:;b:", "b", "").blind(), 512, "the last");
     }
 
+    static void promise23EachRuleByItself() {
+        // What is left to be tried of AB must not help aD.
+        TwoLevels x = asked("A=|aA;B=|aB;D=;AB:;aD:;AB:", "aa", "");
+        due(x.blind(), 5, "AB, not aD");
+        due(x.heads(1), 0, "aD");
+        Calls.notion(x, "a");
+        due(x.blind(), 7, "all");
+    }
+
     static void promise23GoesWithTheRules() {
         TwoLevels x = asked("A=;b:;A:;bA:", "", "");
         due(x.blind(), 2, "nothing");
@@ -1281,6 +1306,16 @@ public final class BoundaryTests extends Checks {
         due(new TwoLevels().node(NONE, 0), NONE, "a new object");
     }
 
+    static void promise28NothingIsLeftOfOtherSearches() {
+        TwoLevels x = asked(COPIES + ";t:\"a,\"a,\"b,\"b", "s", "a a b b");
+        due(x.node(4, 0), 4, "the fifth NODE");
+        Calls.notion(x, "t");
+        due(x.node(NONE, 0), 1, "NODES of another notion");
+        for (int k = 1; k <= 5; k++) due(x.node(k, 0), NONE, "node(" + k + ", 0)");
+        due(x.spelled(1, 0), NONE, "spelled(1, 0)");
+        due(x.free(1, 'N', NONE), NONE, "free(1, N, NONE)");
+    }
+
     static void promise28NumbersOfTheLastOfEach() {
         TwoLevels x = asked("A=|aA;B=|aB;a:;a:;a:;a:;a:;a:;a:;a:;a:;AB:b/c/d/\"A", "aaaaaaaaaa", "aaaaaaaaaa");
         due(x.node(0, 0), 9, "RULE");
@@ -1361,6 +1396,8 @@ public final class BoundaryTests extends Checks {
         TwoLevels x = asked("N=|iN;E=;iN:sN;sN:N;E:\"x", "siiiii", "x");
         x.settle(0, 12);
         due(x.checked(), NONE, "twelve NODES");
+        due(asked("A=a|b|c;s:\"A,t;t:\"A,u;u:\"A", "s", "a b c").checked(), NONE, "each with another FREE word");
+        due(asked("A=a;B=;s:\"AB,t;t:\"BA", "s", "a a").checked(), NONE, "FREE ones that HAVE one word");
     }
 
     static void promise31WithoutADerivation() {

@@ -288,6 +288,10 @@ public final class TermsOneTests extends Checks {
         due(x.choice(0, 0, 0), 2, "MEMBERS");
         due(x.choice(0, 0, 2), 1, "TOKENS");
         due(x.choice(0, 1, 0), 0, "MEMBERS of the second");
+        TwoLevels y = told("a:b  ,  \"  c  ,  d  /  \"  e");
+        due(y.choice(0, 0, 0), 3, "MEMBERS");
+        due(y.choice(0, 0, 2), 1, "TOKENS, blanks ahead of their mark");
+        due(y.choice(0, 1, 2), 1, "TOKENS of the second");
         Calls.notion(x, "aaaa");
         due(x.is('B'), 1, "SIGNS with blanks between are one ROW");
     }
@@ -502,6 +506,18 @@ public final class TermsOneTests extends Checks {
         due(x.meta('B', 3) + x.meta('C', 3), 2, "they derive longer words");
         x.settle(1, 0);
         dueWords(x, 'A');
+    }
+
+    static void termHasNothingOfVeryLongWords() {
+        for (String letters : new String[] {"aaaaaa", "bbbbbb", "pppppp", "zzzzzz"}) {
+            TwoLevels x = told("A=" + letters + ";B=Aa;C=aAz;D=AAAAAA;E=DDDDDD;F=zA|D|E|q");
+            x.settle(1, 3);
+            for (int name = 'A'; name <= 'E'; name++) dueWords(x, name);
+            dueWords(x, 'F', "q");
+            TwoLevels y = told("A=" + letters.substring(3) + ";B=AA;C=AAA;D=AAAAAA;E=BCD|Aa|aA");
+            y.settle(1, 3);
+            for (int name = 'B'; name <= 'E'; name++) dueWords(y, name);
+        }
     }
 
     static void termHasTheFirstTwenty() {

@@ -420,6 +420,7 @@ public final class TermsTwoTests extends Checks {
         TwoLevels x = asked("s:t,t,\"y/t,\"x;t:u;u:", "s", "x");
         due(x.node(NONE, 0), 3, "NODES: s, t, u");
         due(x.node(0, 1), 1, "by the second alternative");
+        for (int k = 3; k <= 5; k++) due(x.node(k, 0), NONE, "node(" + k + ", 0)");
         due(x.steps(0), 11, "STEPS: s; t and u for none, twice; for one, twice; for none");
     }
 
