@@ -804,18 +804,19 @@ public final class TwoLevels {
         final int[] frees = new int[FREES];
         int freed;
         int freeBits;
-        /** How many of the FREE ones stand in the first MEMBER. */
-        int early;
+        /** Where each FREE one stands first: its MEMBER, and how many SIGNS of that are ahead of it. */
+        final int[] freeMembers = new int[FREES];
+        final int[] freeSigns = new int[FREES];
         /** How many TOKENS stand ahead of the first NOTION. */
-        private int ahead;
+        int ahead;
 
         /** The METANOTIONS of the HEAD are bound. */
         Choice(int bound) {
             this.bound = bound;
         }
 
-        /** Whether a SIGN can stand in it; not so the one of a third FREE METANOTION. */
-        boolean admits(int sign) {
+        /** Whether a SIGN can stand at a place of the next MEMBER; not so the one of a third FREE METANOTION. */
+        boolean admits(int sign, int place) {
             int bit = sign < Upper.CAPITAL ? 0 : 1 << (sign - Upper.CAPITAL);
             if ((bit & ~bound & ~freeBits) == 0) {
                 return true;
@@ -824,6 +825,8 @@ public final class TwoLevels {
                 return false;
             }
             frees[freed] = sign - Upper.CAPITAL;
+            freeMembers[freed] = size;
+            freeSigns[freed] = place;
             freed++;
             freeBits |= bit;
             return true;
@@ -834,7 +837,6 @@ public final class TwoLevels {
                 members[size] = signs;
                 tokens |= token ? 1 << size : 0;
                 bits |= Upper.bitsOf(signs);
-                early = size == 0 ? freed : early;
                 ahead += token && ahead == size ? 1 : 0;
                 size++;
             }
@@ -1120,7 +1122,7 @@ public final class TwoLevels {
                 }
                 if (many == Rule.SIGNS) {
                     failAt(at, 2);
-                } else if (open != null && !open.admits(sign)) {
+                } else if (open != null && !open.admits(sign, many)) {
                     failAt(at, 3);
                 } else {
                     signs[many] = sign;
@@ -1351,18 +1353,18 @@ public final class TwoLevels {
             sizes[slot] = Rows.size(word);
         }
 
-        /** The row of letters that SIGNS become. */
-        long spell(int[] signs) {
+        /** The row of letters that the first so many SIGNS become. */
+        long spell(int[] signs, int many) {
             long made = 0;
             int letters = 0;
-            for (int sign : signs) {
-                int slot = sign - Upper.CAPITAL;
+            for (int i = 0; i < many && i < signs.length; i++) {
+                int slot = signs[i] - Upper.CAPITAL;
                 int more = slot < 0 ? 1 : sizes[slot];
                 letters += more;
                 if (letters > Rows.MOST) {
                     return Rows.TOO_LONG;
                 }
-                made = made << (Rows.BITS * more) | (slot < 0 ? sign : values[slot]);
+                made = made << (Rows.BITS * more) | (slot < 0 ? signs[i] : values[slot]);
             }
             return made;
         }
@@ -1492,8 +1494,8 @@ public final class TwoLevels {
                 size = node.index + 1;
                 return triesMembers(node, choice, 0, node.from, node.many);
             }
-            // What the others stand for does not help a first MEMBER that they do not stand in.
-            if (f == choice.early && !opens(node, choice)) {
+            // What it and those behind it stand for does not help what is ahead of them.
+            if (!opens(node, choice, f)) {
                 return false;
             }
             int slot = choice.frees[f];
@@ -1508,10 +1510,24 @@ public final class TwoLevels {
             return false;
         }
 
-        /** Whether the first MEMBER can stand: else no STEP comes of the alternative. */
-        private boolean opens(Node node, Choice choice) {
-            long row = fits[node.level].spell(choice.members[0]);
-            return choice.isToken(0) ? words[node.from] == row : row != Rows.TOO_LONG;
+        /** Whether all up to the f-th FREE one, or to the first NOTION, can stand: else no STEP comes of it. */
+        private boolean opens(Node node, Choice choice, int f) {
+            Fit fit = fits[node.level];
+            int last = Math.min(choice.freeMembers[f], choice.ahead);
+            for (int m = 0; m < last; m++) {
+                if (fit.spell(choice.members[m], Rule.SIGNS) != words[node.from + m]) {
+                    return false;
+                }
+            }
+            boolean whole = last < choice.freeMembers[f];
+            long row = fit.spell(choice.members[last], whole ? Rule.SIGNS : choice.freeSigns[f]);
+            if (row == Rows.TOO_LONG || last == choice.ahead) {
+                return row != Rows.TOO_LONG;
+            }
+            long word = words[node.from + last];
+            int size = Rows.size(word);
+            int first = Rows.size(row);
+            return first <= size && Rows.part(word, size, 0, first) == row;
         }
 
         /** Whether the MEMBERS from one on make up all the WORDS that are left. */
@@ -1523,7 +1539,7 @@ public final class TwoLevels {
             if (token && left == 0) {
                 return false;
             }
-            long row = fits[node.level].spell(choice.members[member]);
+            long row = fits[node.level].spell(choice.members[member], Rule.SIGNS);
             if (row == Rows.TOO_LONG) {
                 return false;
             }
@@ -1595,7 +1611,7 @@ public final class TwoLevels {
             int place = node.from;
             int below = node.index + 1;
             for (int m = 0; m < node.choice.size; m++) {
-                long row = fits[0].spell(node.choice.members[m]);
+                long row = fits[0].spell(node.choice.members[m], Rule.SIGNS);
                 if (node.choice.isToken(m)) {
                     if (place >= words.length || words[place] != row) {
                         return false;

@@ -795,6 +795,12 @@ public final class BoundaryTests extends Checks {
         due(told("A=;B=A").meta('A', 4), 0, "not in METANOTIONS");
     }
 
+    static void promise14RulesInWhichItStandsAheadOfOthers() {
+        TwoLevels x = told("A=;B=;a:A,b;a:\"A,b,c/d;Ab:b;a:A/B;a:b,B/b,b");
+        due(x.meta('A', 4), 1 | 2 | 4 | 8, "A");
+        due(x.meta('B', 4), 8 | 16, "B");
+    }
+
     // ---- 15: word ----
 
     static void promise15TheFirstAndTheLastWord() {
@@ -866,6 +872,17 @@ public final class BoundaryTests extends Checks {
         due(x.is('A'), 0, "nothing of A");
         due(x.is('C'), 1, "nothing of C");
         due(x.is('D'), 0, "nothing of D");
+    }
+
+    static void promise16WordsThatEndInSeveralPlaces() {
+        TwoLevels x = asked("A=a|aa;B=ab;C=AB", "aab", "");
+        due(x.is('C'), 1, "a with ab behind it, though aa has none");
+        Calls.notion(x, "aaab");
+        due(x.is('C'), 1, "aa with ab behind it");
+        Calls.notion(x, "ab");
+        due(x.is('C'), 0, "nothing with ab behind it");
+        Calls.notion(x, "aaaab");
+        due(x.is('C'), 0, "aaa with ab behind it");
     }
 
     // ---- 17: span ----

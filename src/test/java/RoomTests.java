@@ -21,6 +21,7 @@ public final class RoomTests {
         for (int seed = 1; seed <= 60; seed++) oddCalls(new Random(seed));
         System.out.println("odd calls took " + (System.nanoTime() - seconds) / 1000000 + " ms");
         wide();
+        wideOften();
         System.out.println(wrong == 0 ? "the room is kept to" : wrong + " runs are too dear");
         if (wrong != 0) System.exit(1);
     }
@@ -113,5 +114,21 @@ public final class RoomTests {
         x.derives();
         x.least();
         System.out.println("a wide search took " + (System.nanoTime() - start) / 1000000 + " ms");
+    }
+
+    /** The same at each of 500 STEPS: the dearest search that is known. */
+    private static void wideOften() {
+        long start = System.nanoTime();
+        TwoLevels x = new TwoLevels();
+        StringBuilder s = new StringBuilder("A=|aA|bA|cA;B=A;C=A;D=A;E=A;F=A;s:aaaaEF/aabaEF");
+        for (int r = 0; r < 9; r++) s.append(";ABCD:\"EF/\"FE/\"EEF/\"FFE");
+        if (Calls.tell(x, s.toString()) != 10) wrong++;
+        x.settle(1, 3);
+        Calls.notion(x, "s");
+        Calls.text(x, "aazzzzz");
+        if (x.derives() != -3) wrong++;
+        long took = (System.nanoTime() - start) / 1000000;
+        System.out.println("a wide search at each STEP took " + took + " ms");
+        if (took > 120000) wrong++;
     }
 }

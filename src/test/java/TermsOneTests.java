@@ -554,6 +554,12 @@ public final class TermsOneTests extends Checks {
         dueWords(told("A=a|B|BC|CB;B=a;C="), 'A', "a");
     }
 
+    static void termHasWordsThatComeOverSeveralMetanotions() {
+        // Of C comes a word that D has not yet behind all that it had.
+        dueWords(told("D=c|C;C=c|B;B=a|c"), 'D', "a", "c");
+        dueWords(told("A=B;B=C;C=D;D=E;E=F|A;F=|f"), 'A', "", "f");
+    }
+
     static void termHasWordsByLengthThenByLetters() {
         dueWords(told("A=zz|b|az|"), 'A', "", "b", "az", "zz");
         dueWords(told("A=za|z|b|ab"), 'A', "b", "z", "ab", "za");

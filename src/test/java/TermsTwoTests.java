@@ -234,6 +234,52 @@ public final class TermsTwoTests extends Checks {
         due(y.steps(0), 3, "ac, ad");
     }
 
+    static void termFreeMetanotionsOfOneToken() {
+        TwoLevels x = asked("A=a|ab;B=|b|c;s:\"xAB", "s", "xabc");
+        due(x.derives(), 1, "xabc");
+        due(x.free(0, 'A', NONE), 2, "A is ab");
+        due(x.free(0, 'B', 0), 'c', "B is c");
+        Calls.text(x, "xab");
+        due(x.derives(), 1, "xab");
+        due(x.free(0, 'A', NONE), 1, "A is a");
+        due(x.free(0, 'B', 0), 'b', "B is b");
+        Calls.text(x, "xa");
+        due(x.derives(), 1, "xa");
+        due(x.free(0, 'B', NONE), 0, "B is nothing");
+        for (String text : new String[] {"", "x", "xb", "axa", "xabbb", "xacc", "yab", "xa b", "xa xa"}) {
+            Calls.text(x, text);
+            due(x.derives(), 0, text);
+        }
+    }
+
+    static void termFreeMetanotionsOfSeveralTokens() {
+        TwoLevels x = asked("A=a|b;B=c|cc;s:\"A,\"AB,\"B/\"x,\"AA,AB;acc:;bc:\"y,\"y", "s", "b bcc cc");
+        due(x.derives(), 1, "b bcc cc");
+        due(x.free(0, 'A', 0), 'b', "A is b");
+        due(x.free(0, 'B', NONE), 2, "B is cc");
+        for (String text : new String[] {"a bcc cc", "b bcc c", "b b cc", "b bcc", "b bcc cc cc", "x ab", "x aa y y", "x bb"}) {
+            Calls.text(x, text);
+            due(x.derives(), 0, text);
+        }
+        Calls.text(x, "x aa");
+        due(x.derives(), 1, "x aa");
+        due(x.steps(0), 3, "ac, acc");
+        Calls.text(x, "x bb y y");
+        due(x.derives(), 1, "x bb y y");
+        due(x.steps(0), 2, "bc");
+        due(x.node(1, 3), 2, "bc from the third WORD on");
+    }
+
+    static void termFreeMetanotionBehindTooManyLetters() {
+        TwoLevels x = asked("A=aa;B=|b;xA:\"AAB,AAAAAB/AAAAAB;yA:AAAAAx,tB;t:;A:", "xaa", "aaaa");
+        due(x.derives(), 0, "ten letters and B");
+        due(x.steps(0), 3, "those with B empty alone, once in each alternative");
+        Calls.notion(x, "yaa");
+        Calls.text(x, "");
+        due(x.derives(), 0, "eleven letters");
+        due(x.steps(0), 1, "t is not asked");
+    }
+
     // ---- TOKENS and NOTIONS ----
 
     static void termTokenOfMoreThanTenLettersIsNone() {
