@@ -548,6 +548,12 @@ public final class TermsOneTests extends Checks {
         due(x.word('B', 19, NONE), -2, "a twentieth");
     }
 
+    static void termHasTheTwentiethThatIsFoundLast() {
+        TwoLevels x = told("L=|y;E=b|c|d|z;R=E|EE;A=LR");
+        dueWords(x, 'A', "b", "c", "d", "z", "bb", "bc", "bd", "bz", "cb", "cc", "cd", "cz", "db", "dc", "dd", "dz",
+            "yb", "yc", "yd", "yz");
+    }
+
     static void termHasEachWordOnce() {
         dueWords(told("A=a|a|a|a"), 'A', "a");
         dueWords(told("A=|||"), 'A', "");
